@@ -1554,6 +1554,8 @@ public final class HalfNumber {
 
     /** Counts pairings: a row over all sets of lines of OUT that are taken, line of IN by line of IN. */
     private static final class Counter {
+        /** Above every gain there is. */
+        private static final int ANY_GAIN = 100000;
         private final int[] numbers = new int[LINE_SETS];
         private final int[] gains = new int[LINE_SETS];
 
@@ -1576,24 +1578,32 @@ public final class HalfNumber {
         }
 
         void spreadAll(Pairs pairs, int withoutIn, int withoutOut) {
+            int closed = withoutOut == NONE ? 0 : 1 << withoutOut;
             Arrays.fill(numbers, 0);
             numbers[0] = 1;
             for (int i = 0; i < pairs.ins; i++) {
                 if (i != withoutIn) {
-                    spreadLine(pairs, i, withoutOut);
+                    spreadLine(openTo(pairs, i, ANY_GAIN) & ~closed, pairs.outs);
                 }
             }
         }
 
-        /** From the fullest set down: what a line adds is not taken for what was there before. */
-        private void spreadLine(Pairs pairs, int i, int withoutOut) {
+        /** Lines of OUT that a line of IN may have at no more than a gain, as bits. */
+        private static int openTo(Pairs pairs, int i, int mostGain) {
             int open = 0;
             for (int j = 0; j < pairs.outs; j++) {
-                open |= j != withoutOut && pairs.mayBe(i, j) ? 1 << j : 0;
+                if (pairs.mayBe(i, j) && pairs.gainOf(i, j) <= mostGain) {
+                    open |= 1 << j;
+                }
             }
-            for (int set = (1 << pairs.outs) - 1; set >= 0; set--) {
+            return open;
+        }
+
+        /** From the fullest set down: what a line adds is not taken for what was there before. */
+        private void spreadLine(int open, int outs) {
+            for (int set = (1 << outs) - 1; set >= 0; set--) {
                 int free = numbers[set] == 0 ? 0 : open & ~set;
-                for (int j = 0; free >> j != 0 && j < pairs.outs; j++) {
+                for (int j = 0; j < outs && free >> j != 0; j++) {
                     if ((free >> j & 1) == 1) {
                         numbers[set | 1 << j] += numbers[set];
                     }
@@ -1606,11 +1616,7 @@ public final class HalfNumber {
             numbers[0] = 1;
             gains[0] = 0;
             for (int i = 0; i < pairs.ins; i++) {
-                for (int set = (1 << pairs.outs) - 1; set >= 0; set--) {
-                    if (numbers[set] != 0) {
-                        spreadBest(pairs, i, set);
-                    }
-                }
+                spreadBest(pairs, i);
             }
             int least = 0;
             long sum = 0;
@@ -1624,11 +1630,15 @@ public final class HalfNumber {
             return sum;
         }
 
-        /** A pair that gains less than nothing is in no best pairing: it is passed over. */
-        private void spreadBest(Pairs pairs, int i, int set) {
-            for (int j = 0; j < pairs.outs; j++) {
-                if ((set >> j & 1) == 0 && pairs.mayBe(i, j) && pairs.gainOf(i, j) <= 0) {
-                    addBest(set | 1 << j, gains[set] + pairs.gainOf(i, j), numbers[set]);
+        /** As spreadLine, with the least gain of each set; a pair of a gain above 0 is in no best pairing. */
+        private void spreadBest(Pairs pairs, int i) {
+            int open = openTo(pairs, i, 0);
+            for (int set = (1 << pairs.outs) - 1; set >= 0; set--) {
+                int free = numbers[set] == 0 ? 0 : open & ~set;
+                for (int j = 0; j < pairs.outs && free >> j != 0; j++) {
+                    if ((free >> j & 1) == 1) {
+                        addBest(set | 1 << j, gains[set] + pairs.gainOf(i, j), numbers[set]);
+                    }
                 }
             }
         }
