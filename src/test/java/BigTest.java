@@ -166,7 +166,99 @@ public final class BigTest {
         DUE.is("OUT alone in all", x.alone(1, 2), never);
         DUE.is("adopted", x.adopt(), Arrays.stream(first).filter(j -> j != NONE).count());
         DUE.is("judged", x.judge(3), 0);
+        askOfFirst(first);
+        askPrices(least);
+        for (int end = 0; end < 2; end++) DUE.is("fewest cars", x.cars(end, 1), fewestCars(end));
         askManyAndClock(least);
+    }
+
+    private void askOfFirst(int[] first) {
+        int pairs = 0, sum = 0, passings = 0, most = 0, passer = NONE;
+        int[][] reads = new int[8][8];
+        int[] passed = new int[ins];
+        for (int a = 0; a < ins; a++) {
+            if (first[a] == NONE) continue;
+            pairs++;
+            sum += x.took(a, first[a]);
+            for (int p = 10; p < 14; p++) {
+                int in = x.of(0, a, p), out = x.of(1, first[a], p);
+                if (in > 0 && out > 0) reads[(in + 7) % 8][(out + 7) % 8]++;
+            }
+            for (int b = 0; b < ins; b++) {
+                if (first[b] == NONE || x.of(0, a, 0) <= x.of(0, b, 0) || x.of(1, first[a], 0) >= x.of(1, first[b], 0)) continue;
+                passings++;
+                passed[a]++;
+            }
+            if (passed[a] > most) {
+                most = passed[a];
+                passer = a;
+            }
+        }
+        DUE.is("pairs of the first", x.times(0), pairs);
+        if (pairs > 0) DUE.is("mean", (long) x.times(3) * pairs, (long) sum * x.times(4));
+        DUE.is("passings", x.passed(0), passings);
+        DUE.is("passer", x.passed(2), passer);
+        DUE.is("fewest without passing", x.passed(1), pairs - longestOrder(first));
+        for (int a = 0; a < 8; a++) for (int b = 0; b < 8; b++) DUE.is("reads", x.reads(a, b), reads[a][b]);
+        DUE.is("blame", x.blame(2), Math.max(reads[0][1], reads[1][0]) == 0 ? NONE : Math.max(reads[0][1], reads[1][0]));
+    }
+
+    /** The most pairs that came out in the order in which they went in. */
+    private int longestOrder(int[] first) {
+        Integer[] order = java.util.stream.IntStream.range(0, ins).filter(i -> first[i] != NONE).boxed().toArray(Integer[]::new);
+        Arrays.sort(order, java.util.Comparator.<Integer>comparingInt(i -> x.of(0, i, 0)).thenComparingInt(i -> x.of(1, first[i], 0)));
+        int[] longest = new int[order.length];
+        int most = 0;
+        for (int a = 0; a < order.length; a++) {
+            longest[a] = 1;
+            for (int b = 0; b < a; b++) {
+                if (x.of(1, first[order[b]], 0) <= x.of(1, first[order[a]], 0)) longest[a] = Math.max(longest[a], longest[b] + 1);
+            }
+            most = Math.max(most, longest[a]);
+        }
+        return most;
+    }
+
+    private void askPrices(int least) {
+        x.sheet(3, 2, ins + outs + 1);
+        x.lay(3, 0, 1000);
+        int sum = 0;
+        for (int i = 0; i < ins; i++) {
+            // all of a line's cost is its own price: lines of OUT have 0
+            int price = off;
+            for (int j = 0; j < outs; j++) if (cost[i][j] != NONE) price = Math.min(price, cost[i][j]);
+            x.lay(3, 1 + i, price);
+            sum += price;
+        }
+        DUE.is("prices hold", x.prices(3, 2, 1, 0), 1);
+        DUE.is("they prove", x.prices(3, 2, 1, 3), sum);
+        DUE.is("less than best", x.prices(3, 2, 1, 4), least - sum);
+        DUE.is("one cell too far", x.prices(3, 2, 2, 4), -1000012);
+        if (outs > 0) {
+            x.lay(3, ins + outs, joined + 1);
+            DUE.is("the last line's is too great", x.prices(3, 2, 1, 2), ins + outs - 1);
+        }
+    }
+
+    /** Lines go one by one into the cars there are or a new one, all ways tried that can still be better. */
+    private int fewestCars(int end) {
+        return fewestCars(end, 0, new int[10], 0, 10);
+    }
+
+    private int fewestCars(int end, int line, int[] members, int cars, int best) {
+        int size = end == 0 ? ins : outs;
+        if (line == size) return Math.min(cars, best);
+        if (cars >= best) return best;
+        int mates = 0;
+        for (int k = 0; k < line; k++) mates |= x.round(end, line, k) << k;
+        for (int c = 0; c <= cars; c++) {
+            if (c < cars && (members[c] & ~mates) != 0 || c == 10) continue;
+            int was = members[c];
+            members[c] = (c == cars ? 0 : was) | 1 << line;
+            best = fewestCars(end, line + 1, members, Math.max(cars, c + 1), best);
+            members[c] = was;
+        }
+        return best;
     }
 
     private void askManyAndClock(int least) {
